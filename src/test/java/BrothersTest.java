@@ -148,6 +148,9 @@ final class BrothersTest {
         tuesday.day(2);
         avoids(tuesday, "TUESDAY on DAY 2", 4, 1);
         avoids(tuesday, "TUESDAY on DAY 2", 6, 0);
+        tuesday.become(0, 35);
+        avoids(tuesday, "TUESDAY 5 on DAY 2", 4, 0);
+        tuesday.become(0, 34);
         tuesday.day(9);
         avoids(tuesday, "TUESDAY on DAY 9", 5, 1);
         tuesday.day(10);
@@ -195,6 +198,9 @@ final class BrothersTest {
         Due.text(x, 0, "!a");
         avoids(x, "!a", 4, 1);
         avoids(x, "!a", 5, 0);
+        Due.text(x, 0, "a=1");
+        avoids(x, "a=1", 5, 1);
+        avoids(x, "a=1", 4, 0);
         Due.text(x, 0, "b=32&f=64");
         avoids(x, "b=32&f=64", 4, 1);
         avoids(x, "b=32&f=64", 5, 0);

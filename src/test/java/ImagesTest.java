@@ -46,6 +46,7 @@ final class ImagesTest {
         x.forget(1);
         x.sign(44, 1);
         x.say(0, 30);
+        x.text(0);
         Due.text(x, 1, "s");
         x.untell(0);
         Due.feed(x, "12");

@@ -80,10 +80,15 @@ final class SignsTest {
         Due.due("DAY stays", x.count(2), 0);
         Due.due("z stays", x.count(8), 1);
         Due.due("say(0, 5): he AVOIDS it", x.say(0, 5), Due.STATE);
+        x.vow(0);
+        Due.due("say(0, 0): breaks 000000", x.say(0, 0), 1);
+        x.vow(364);
+        Due.due("say(0, 63): breaks 111111", x.say(0, 63), 1);
+        Due.due("say(0, 62)", x.say(0, 62), 0);
         x.brother(60);
         x.say(1, 7);
         Due.due("SAID of the other", x.brotherIs(1, 2), 1);
-        Due.due("SAID", x.brotherIs(0, 2), 2);
+        Due.due("SAID", x.brotherIs(0, 2), 5);
         Due.refused("say(0, 1)", Due::busy, y -> sayAvoided(y), Due.STATE);
         Due.refused("say(3, 0)", Due::busy, y -> y.say(3, 0), Due.BEYOND);
         Due.refused("say(-1, 0)", Due::busy, y -> y.say(-1, 0), Due.BEYOND);

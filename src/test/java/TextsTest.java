@@ -157,6 +157,10 @@ final class TextsTest {
         Due.due("8 stays", x.law(1, 0, 0, 0), 8);
         Due.due("no ERROR", x.told(1) + x.told(2) + x.told(3), 0);
         Due.due("the other USE", x.law(0, 1, 0, 0), 1);
+        for (int i = 0; i < 40; i++) {
+            Due.due("t+s", Due.text(x, 1, "t+s"), 1);
+        }
+        Due.due("t+s after many", x.law(1, 30, 4, 0), 34);
         Due.refused("text(2)", Due::busy, y -> y.text(2), Due.BEYOND);
         Due.refused("text(-1)", Due::busy, y -> y.text(-1), Due.BEYOND);
         Due.feed(x, "5");

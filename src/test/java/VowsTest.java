@@ -43,6 +43,9 @@ final class VowsTest {
         for (int what = 0; what <= 3; what++) {
             Due.due("vows(" + what + ") after 5, not 0, 1, 4", x.vows(what), last[what]);
         }
+        onlyOne(5, 1 + 9);
+        onlyOne(0, 0);
+        onlyOne(63, 364);
         Due.due("vows(0) of none", withNone().vows(0), 0);
         for (int what = 1; what <= 3; what++) {
             int asked = what;
@@ -52,6 +55,18 @@ final class VowsTest {
         Due.refused("vows(4)", Due::busy, y -> y.vows(4), Due.BEYOND);
         Due.refused("vows(-1)", Due::busy, y -> y.vows(-1), Due.BEYOND);
         Due.idle("vows(0)", Due::busy, y -> y.vows(0), Due.busy().vows(0));
+    }
+
+    /** Where one SAYING is FELT and all that differ by one mark are not, one VOW is left. */
+    private static void onlyOne(int s, int vow) {
+        ParrotVow x = withSigns(s);
+        for (int k = 0; k < 6; k++) {
+            x.sign(s ^ 1 << k, 0);
+        }
+        int[] wants = {1, vow, vow, 6};
+        for (int what = 0; what <= 3; what++) {
+            Due.due("vows(" + what + ") of " + s + " alone", x.vows(what), wants[what]);
+        }
     }
 
     private static void parts() {
@@ -112,6 +127,10 @@ final class VowsTest {
         Due.due("unsaid(1)", x.unsaid(1), 7);
         x.brother(61);
         Due.due("unsaid(0): LAY 1", x.unsaid(0), 0);
+        ParrotVow lay = new ParrotVow();
+        lay.brother(64);
+        lay.sign(4, 0);
+        Due.due("unsaid(0): LAY 4, who AVOIDS what breaks nothing", lay.unsaid(0), 16);
         ParrotVow errors = new ParrotVow();
         errors.brother(60);
         Due.text(errors, 0, "0");
@@ -143,6 +162,11 @@ final class VowsTest {
         Due.due("freest(0): LAY 7, who AVOIDS 7", x.freest(0), 2);
         x.sign(2, 1);
         Due.due("none FITS: freest(0)", x.freest(0), 1);
+        ParrotVow mute = new ParrotVow();
+        mute.brother(40);
+        mute.sign(3, 0);
+        Due.due("a MUTE alone: freest(0)", mute.freest(0), 0);
+        Due.due("a MUTE alone: freest(1)", mute.freest(1), 0);
         Due.refused("freest(0)", ParrotVow::new, y -> y.freest(0), Due.STATE);
         Due.refused("freest(2)", Due::busy, y -> y.freest(2), Due.BEYOND);
         Due.refused("freest(-1)", Due::busy, y -> y.freest(-1), Due.BEYOND);
@@ -190,6 +214,15 @@ final class VowsTest {
         x.put(3, 5, 1);
         Due.due("fits of 5 alone", x.fits(3, 0), 2);
         Due.due("fits of 5 alone", x.fits(3, 1), 10);
+        Due.sheet(x, 2, 8, 2, 0, 0);
+        Due.due("fits with 2 ahead", x.fits(2, 0), 0);
+        ParrotVow fresh = new ParrotVow();
+        Due.sheet(fresh, 0, 8, 1);
+        Due.due("fits of 0", fresh.fits(0, 0), 64);
+        Due.due("fits of 0", fresh.fits(0, 1), 0);
+        fresh.put(0, 0, 0);
+        Due.due("fits of not 0", fresh.fits(0, 0), 665);
+        Due.due("fits of not 0", fresh.fits(0, 1), 1);
         Due.refused("fits(3, 0) missing", Due::busy, y -> y.fits(3, 0), Due.NONE);
         Due.refused("fits(3, 2) missing", Due::busy, y -> y.fits(3, 2), Due.BEYOND);
         Due.refused("fits(1, 1)", Due::busy, y -> y.fits(1, 1), Due.NONE);
