@@ -18,6 +18,10 @@ final class Due {
         long on(ParrotVow x);
     }
 
+    interface ActWith {
+        long on(ParrotVow x, int v);
+    }
+
     private static int right = 0;
     private static int wrong = 0;
 
@@ -44,28 +48,86 @@ final class Due {
 
     /** The act answers the ERROR, which told() counts once, and changes nothing else. */
     static void refused(String call, Maker maker, Act act, long error) {
-        ParrotVow untouched = maker.make();
-        ParrotVow touched = maker.make();
-        due(call, act.on(touched), error);
-        for (int k = 1; k <= 6; k++) {
-            int more = error == -1000000000L - k ? 1 : 0;
-            due(call + ", then told(" + k + ")", touched.told(k), untouched.told(k) + more);
-        }
-        due(call + ", then all else", seen(touched), seen(untouched));
+        unchanged(call, maker, act, error, (int) (-1000000000L - error));
     }
 
     /** As refused, of an act that answers no ERROR and changes nothing at all. */
     static void idle(String call, Maker maker, Act act, long answer) {
+        unchanged(call, maker, act, answer, 0);
+    }
+
+    /** Of two like objects one is acted on; SHEETS are read number by number from two more. */
+    private static void unchanged(String call, Maker maker, Act act, long answer, int counted) {
         ParrotVow untouched = maker.make();
         ParrotVow touched = maker.make();
         due(call, act.on(touched), answer);
         for (int k = 1; k <= 6; k++) {
-            due(call + ", then told(" + k + ")", touched.told(k), untouched.told(k));
+            int more = k == counted ? 1 : 0;
+            due(call + ", then told(" + k + ")", touched.told(k), untouched.told(k) + more);
         }
         due(call + ", then all else", seen(touched), seen(untouched));
+        for (int sheet = 0; sheet < 4; sheet++) {
+            ParrotVow before = maker.make();
+            ParrotVow after = maker.make();
+            act.on(after);
+            due(call + ", then SHEET " + sheet, numbers(after, sheet), numbers(before, sheet));
+        }
     }
 
-    /** All that can be seen of an object; it is used up by that. */
+    /** A SHEET number by number: each as the only SIGN, by the least VOW that it BREAKS; the object is used up by that. */
+    private static String numbers(ParrotVow x, int sheet) {
+        List<Long> all = new ArrayList<>();
+        all.add((long) x.judge(sheet));
+        x.vow(728);
+        x.forget(x.count(1));
+        long moved = x.move(sheet, 0, sheet, 0, 1);
+        for (int i = 1; i <= 24 && moved == 1; i++) {
+            int signs = x.signs(sheet);
+            all.add((long) x.forget(Math.max(0, signs - 1)));
+            all.add((long) x.vows(1));
+            all.add((long) x.forget(Math.min(1, signs)));
+            all.add((long) x.judge(sheet));
+            moved = x.move(sheet, i, sheet, 0, 1);
+        }
+        all.add(moved);
+        return all.toString();
+    }
+
+    /** low and high don't answer the ERROR; what lies below and above is refused. */
+    static void ends(String call, Maker maker, int low, int high, long error, ActWith act) {
+        ends(call, maker, low, high, error, error, act);
+    }
+
+    /** As ends, where what lies below is another ERROR than what lies above. */
+    static void ends(String call, Maker maker, int low, int high, long errorBelow, long errorAbove, ActWith act) {
+        taken(call, maker, low, errorBelow, act);
+        taken(call, maker, high, errorAbove, act);
+        below(call, maker, low, errorBelow, act);
+        above(call, maker, high, errorAbove, act);
+    }
+
+    private static void taken(String call, Maker maker, int v, long error, ActWith act) {
+        ParrotVow x = maker.make();
+        int k = (int) (-1000000000L - error);
+        int before = x.told(k);
+        due(call + " with " + v + " is the ERROR", act.on(x, v) == error ? 1 : 0, 0);
+        due(call + " with " + v + ", then more of told(" + k + ")", x.told(k) - before, 0);
+    }
+
+    /** Also what would lie within, if only some lowest bits of it were looked at. */
+    static void below(String call, Maker maker, int low, long error, ActWith act) {
+        for (int v : new int[] {low - 1, low - 256, low - 65536, Integer.MIN_VALUE + low, Integer.MIN_VALUE}) {
+            refused(call + " with " + v, maker, x -> act.on(x, v), error);
+        }
+    }
+
+    static void above(String call, Maker maker, int high, long error, ActWith act) {
+        for (int v : new int[] {high + 1, high + 256, high + 65536, Integer.MAX_VALUE}) {
+            refused(call + " with " + v, maker, x -> act.on(x, v), error);
+        }
+    }
+
+    /** All that can be seen of an object, but for the single numbers of its SHEETS; it is used up by that. */
     static String seen(ParrotVow x) {
         List<Long> all = new ArrayList<>();
         look(x, all);
@@ -153,6 +215,33 @@ final class Due {
         sheet(x, 1, 16, 5, 9, 64);
         sheet(x, 2, 8, 3, 2, 1);
         x.voice(1, 2, 7);
+        return x;
+    }
+
+    /** One object with as much of everything as there is room for; no VOW FITS. */
+    static ParrotVow full() {
+        ParrotVow x = new ParrotVow();
+        for (int kind = 1; kind <= 6; kind++) {
+            x.brother(10 * kind + 9 - kind);
+        }
+        x.vow(0);
+        for (int s = 0; s < 23; s++) {
+            x.sign(s, s % 2);
+        }
+        x.sign(1, 0);
+        x.day(9999);
+        text(x, 0, "a+b");
+        text(x, 1, "t*2");
+        x.image();
+        feed(x, "1+1+1+1+1+1+1+1+1+1+1+1+1+1+1+1+1+1+1+1+1+1+1+1+1+1+1+1+1+22");
+        for (int i = 0; i < 24; i++) {
+            x.tell(i);
+        }
+        for (int sheet = 0; sheet < 4; sheet++) {
+            sheet(x, sheet, sheet < 2 ? 8 : 32, new int[24]);
+            x.put(sheet, 0, 1);
+        }
+        x.voice(3, 3, 1);
         return x;
     }
 

@@ -5,6 +5,10 @@ final class ImagesTest {
         allIsKept();
         allButSome();
         none();
+        textsComeAndGo();
+        ofNothing();
+        ofEverything();
+        toldGoesOn();
         Due.end();
     }
 
@@ -113,5 +117,92 @@ final class ImagesTest {
         x.loose(1);
         x.tell(4);
         return x;
+    }
+
+    /** An IMAGE made while there is no TEXT takes it away again; one made while there is brings it back. */
+    private static void textsComeAndGo() {
+        for (int use = 0; use <= 1; use++) {
+            ParrotVow x = new ParrotVow();
+            x.image();
+            Due.text(x, use, "1");
+            x.restore();
+            Due.due("no TEXT of USE " + use, x.untell(use), 0);
+            Due.text(x, use, "0");
+            x.image();
+            Due.text(x, use, "1");
+            x.restore();
+            Due.due("the TEXT that was: law(" + use + ", 1, 1, 1)", x.law(use, 1, 1, 1), 0);
+            Due.due("untell(" + use + ")", x.untell(use), 1);
+            x.restore();
+            Due.due("untell(" + use + ") after one more restore()", x.untell(use), 1);
+        }
+    }
+
+    private static void ofNothing() {
+        ParrotVow x = Due.full();
+        ParrotVow y = new ParrotVow();
+        y.image();
+        Due.due("restore() of nothing to nothing", y.restore(), 0);
+        Due.due("image()", y.image(), 2);
+        int[] counts = {0, 0, 0, 0, 728, 0, 0, 0, 1};
+        for (int what = 0; what <= 8; what++) {
+            Due.due("count(" + what + ")", y.count(what), counts[what]);
+        }
+        Due.due("a full one's restore()", x.restore(), 9999);
+        Due.due("numbers that wait", x.count(6), 0);
+        Due.due("bytes of THE TAPE", x.count(5), 0);
+        Due.due("BROTHERS", x.count(0), 6);
+        Due.due("SIGNS", x.count(1), 24);
+        Due.due("vows(0)", x.vows(0), 0);
+    }
+
+    private static void ofEverything() {
+        ParrotVow x = Due.full();
+        Due.due("image()", x.image(), 2);
+        x.check();
+        x.text(1);
+        x.forget(24);
+        x.seed(3);
+        x.vow(9);
+        x.untell(0);
+        for (int i = 0; i < 6; i++) {
+            x.become(i, 0);
+            x.say(i, 63);
+        }
+        Due.due("restore()", x.restore(), 9999);
+        ParrotVow y = Due.full();
+        y.image();
+        y.restore();
+        Due.due("all 24 SIGNS, 60 bytes, 24 numbers, 6 BROTHERS", Due.seen(x), Due.seen(y));
+    }
+
+    /** What told() tells goes on over image() and restore(), of each ERROR. */
+    private static void toldGoesOn() {
+        ParrotVow x = new ParrotVow();
+        x.brother(0);
+        x.image();
+        errors(x);
+        x.restore();
+        for (int k = 1; k <= 6; k++) {
+            Due.due("told(" + k + ") after restore()", x.told(k), 1);
+        }
+        x.image();
+        errors(x);
+        x.restore();
+        for (int k = 1; k <= 6; k++) {
+            Due.due("told(" + k + ") after two", x.told(k), 2);
+        }
+    }
+
+    /** One of each. */
+    private static void errors(ParrotVow x) {
+        x.count(9);
+        x.body(-1);
+        x.sheet(0, 8, -1);
+        for (int i = 0; i < 25; i++) {
+            x.tell(i);
+        }
+        x.as(0, 1);
+        x.voice(0, 3, 1);
     }
 }

@@ -2,9 +2,12 @@
 final class SheetsTest {
     public static void main(String[] args) {
         sheet();
+        sheetAgain();
+        sheetGoneAndBack();
         put();
         move();
         moveOverItself();
+        moveOfAll();
         signs();
         judge();
         Due.end();
@@ -40,6 +43,45 @@ final class SheetsTest {
         Due.refused("sheet(4, 8, -1)", Due::busy, y -> y.sheet(4, 8, -1), Due.BEYOND);
         Due.refused("sheet(0, 16, -1)", Due::busy, y -> y.sheet(0, 16, -1), Due.STATE);
         Due.refused("sheet(0, 16, 25)", Due::busy, y -> y.sheet(0, 16, 25), Due.BEYOND);
+    }
+
+    /** All numbers are 0 again, by as many of the same bits, too; and by none, then as many. */
+    private static void sheetAgain() {
+        int[][] again = {{8, 2}, {16, 2}, {32, 2}, {8, 3}, {8, 1}, {8, 24}, {8, 0}};
+        for (int[] one : again) {
+            ParrotVow x = new ParrotVow();
+            Due.sheet(x, 2, 8, 64, 64);
+            Due.due("judge(2) ahead", x.judge(2), 2);
+            Due.due("sheet(2, " + one[0] + ", " + one[1] + ")", x.sheet(2, one[0], one[1]), 1);
+            Due.due("judge(2): not 64", x.judge(2), 0);
+            Due.due("signs(2): all 0", x.signs(2), one[1]);
+            Due.due("F", x.vows(0), one[1] == 0 ? 729 : 64);
+            Due.due("put of one behind", x.put(2, one[1], 0), Due.BEYOND);
+            x.sheet(2, 8, 2);
+            Due.due("judge(2): not 64", x.judge(2), 0);
+        }
+    }
+
+    private static void sheetGoneAndBack() {
+        ParrotVow x = new ParrotVow();
+        for (int sheet = 0; sheet < 4; sheet++) {
+            Due.sheet(x, sheet, 8, 64);
+        }
+        int[] ns = {0, -1, Integer.MIN_VALUE, Integer.MAX_VALUE};
+        for (int sheet = 0; sheet < 4; sheet++) {
+            Due.due("sheet(" + sheet + ", 0, " + ns[sheet] + ")", x.sheet(sheet, 0, ns[sheet]), 1);
+            Due.due("judge of it", x.judge(sheet), Due.NONE);
+            Due.due("put of it", x.put(sheet, 0, 1), Due.NONE);
+            Due.due("signs of it", x.signs(sheet), Due.NONE);
+            Due.due("fits of it", x.fits(sheet, 0), Due.NONE);
+            Due.due("move of it", x.move(sheet, 0, sheet, 0, 0), Due.NONE);
+            Due.due("missing already", x.sheet(sheet, 0, 25), 1);
+            for (int other = sheet + 1; other < 4; other++) {
+                Due.due("judge of another", x.judge(other), 1);
+            }
+        }
+        x.sheet(1, 8, 1);
+        Due.due("it is all 0 when it is back", x.signs(1), 1);
     }
 
     private static void put(int bits, int v, int saidAs) {
@@ -133,6 +175,53 @@ final class SheetsTest {
         Due.due("down", numbers(x, 0, 5), "2 3 4 3 4");
         Due.due("move(0, 0, 0, 0, 5)", x.move(0, 0, 0, 0, 5), 5);
         Due.due("upon itself", numbers(x, 0, 5), "2 3 4 3 4");
+    }
+
+    /** SHEETS of 24 numbers, 40 up to 63 in the one and 39 down to 16 in the other; the same or another. */
+    private static void moveOfAll() {
+        int[][] all = {{0, 0, 24}, {0, 1, 23}, {1, 0, 23}, {0, 12, 12}, {12, 0, 12}, {3, 5, 10}, {5, 3, 10}, {23, 0, 1},
+            {0, 23, 1}, {24, 24, 0}, {24, 0, 0}, {0, 24, 0}, {7, 7, 9}};
+        for (int bits = 8; bits <= 32; bits *= 2) {
+            for (int[] one : all) {
+                for (int other = 1; other <= 2; other++) {
+                    moved(bits, one[0], other, one[1], one[2]);
+                }
+            }
+        }
+    }
+
+    private static void moved(int bits, int i, int other, int j, int n) {
+        int[][] were = {new int[24], new int[24]};
+        for (int at = 0; at < 24; at++) {
+            were[0][at] = 40 + at;
+            were[1][at] = 39 - at;
+        }
+        int[] to = were[other - 1].clone();
+        System.arraycopy(were[0], i, to, j, n);
+        String call = "move(1, " + i + ", " + other + ", " + j + ", " + n + ") of " + bits + " bits";
+        for (int sheet = 1; sheet <= 2; sheet++) {
+            ParrotVow x = new ParrotVow();
+            Due.sheet(x, 1, bits, were[0]);
+            Due.sheet(x, 2, bits, were[1]);
+            Due.due(call, x.move(1, i, other, j, n), n);
+            int[] want = sheet == other ? to : were[sheet - 1];
+            for (int at = 0; at < 24; at++) {
+                x.sheet(3, bits, 1);
+                x.move(sheet, at, 3, 0, 1);
+                x.signs(3);
+                Due.due(call + ": number " + at + " of SHEET " + sheet, x.vows(1), leastBroken(want[at]));
+                x.forget(1);
+            }
+        }
+    }
+
+    /** The least VOW that a SAYING BREAKS: its figures are its marks. */
+    private static int leastBroken(int s) {
+        int vow = 0;
+        for (int k = 5; k >= 0; k--) {
+            vow = 3 * vow + (s >> k) % 2;
+        }
+        return vow;
     }
 
     private static void signs() {

@@ -43,7 +43,7 @@ final class SignsTest {
 
     private static ParrotVow full() {
         ParrotVow x = Due.busy();
-        while (x.count(1) < 24) {
+        for (int i = x.count(1); i < 24; i++) {
             x.sign(63, 1);
         }
         return x;

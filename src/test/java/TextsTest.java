@@ -38,11 +38,30 @@ final class TextsTest {
         Due.refused("feed(97, -1)", Due::busy, y -> y.feed(97L, -1), Due.BEYOND);
         Due.refused("feed too many", TextsTest::longTape, y -> y.feed(97L, 2), Due.FULL);
         highBytes();
+        words();
+    }
+
+    /** The n lowest bytes, the lowest first; what stands above them doesn't matter. */
+    private static void words() {
+        String text = "9+t*2-sd";
+        int[] wants = {9, -12, 19, -14, 29, -16, 26, -17};
+        for (int n = 1; n <= 8; n++) {
+            for (long above = -1L; above <= 1L; above++) {
+                ParrotVow x = new ParrotVow();
+                long word = n < 8 ? above << (8 * n) : 0L;
+                for (int i = 0; i < n; i++) {
+                    word |= (long) text.charAt(i) << (8 * i);
+                }
+                Due.due("feed of " + n + " bytes", x.feed(word, n), n);
+                int read = x.text(1);
+                Due.due("text(1) of " + n + " bytes", read == 1 ? x.law(1, 10, 3, 0) : read, wants[n - 1]);
+            }
+        }
     }
 
     private static ParrotVow longTape() {
         ParrotVow x = Due.busy();
-        while (x.count(5) < 59) {
+        for (int i = x.count(5); i < 59; i++) {
             x.feed(97L, 1);
         }
         return x;

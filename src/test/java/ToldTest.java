@@ -23,7 +23,7 @@ final class ToldTest {
 
     private static ParrotVow full() {
         ParrotVow x = Due.busy();
-        while (x.count(6) < 24) {
+        for (int i = x.count(6); i < 24; i++) {
             x.tell(0);
         }
         return x;
