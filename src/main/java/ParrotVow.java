@@ -381,7 +381,7 @@ public final class ParrotVow {
             return error(BEYOND);
         }
         if (bits == 0) {
-            made.become(0, 0);
+            made.remake(0, 0);
             return 1;
         }
         if (n < 0) {
@@ -390,7 +390,7 @@ public final class ParrotVow {
         if (n > MOST_NUMBERS) {
             return error(BEYOND);
         }
-        made.become(bits, n);
+        made.remake(bits, n);
         return 1;
     }
 
@@ -1262,7 +1262,7 @@ public final class ParrotVow {
             return bits == 0;
         }
 
-        void become(int width, int n) {
+        void remake(int width, int n) {
             bits = width;
             numbers.zeros(n);
         }

@@ -54,6 +54,11 @@ final class LanguageTest {
                 Due.due("no public name: " + m.getName(), names.contains(m.getName()) ? 1 : 0, 0);
             }
         }
+        for (Class<?> c : ParrotVow.class.getDeclaredClasses()) {
+            for (Method m : c.getDeclaredMethods()) {
+                Due.due("no public name: " + c.getName() + "." + m.getName(), names.contains(m.getName()) ? 1 : 0, 0);
+            }
+        }
         for (Field f : ParrotVow.class.getDeclaredFields()) {
             isPrivate(f);
         }
