@@ -2,6 +2,7 @@
 final class BrothersTest {
     public static void main(String[] args) {
         aNewObject();
+        besideOthers();
         brother();
         brotherIs();
         become();
@@ -16,7 +17,35 @@ final class BrothersTest {
     }
 
     private static void aNewObject() {
+        asAtFirst(new ParrotVow());
+    }
+
+    /** What is done with others, made ahead of it or behind it, changes nothing in an object. */
+    private static void besideOthers() {
+        ParrotVow before = Due.full();
         ParrotVow x = new ParrotVow();
+        ParrotVow y = Due.busy();
+        y.brother(70);
+        before.restore();
+        before.forget(24);
+        before.sign(7, 1);
+        before.put(1, 23, 64);
+        before.voice(4, 2, 9);
+        before.tell(3);
+        before.brother(0);
+        before.day(77);
+        asAtFirst(x);
+        x.brother(30);
+        x.sign(9, 0);
+        x.day(2);
+        x.image();
+        Due.due("the one's F", before.vows(0), 64);
+        Due.due("the one's DAY", before.count(2), 77);
+        Due.due("the other, as it was but for one ERROR", Due.seen(y), Due.seen(Due.busy()));
+        asAtFirst(new ParrotVow());
+    }
+
+    private static void asAtFirst(ParrotVow x) {
         int[] counts = {0, 0, 0, 0, 728, 0, 0, 0, 1};
         for (int what = 0; what <= 8; what++) {
             Due.due("new: count(" + what + ")", x.count(what), counts[what]);
